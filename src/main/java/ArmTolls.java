@@ -423,37 +423,25 @@ public final class ArmTolls {
         }
         switch (reader.kind) {
             case '+':
-                return carryOutSteps(gear, UP);
+                return makeSteps(gear, UP, reader.number) > 0;
             case '-':
-                return carryOutSteps(gear, DOWN);
+                return makeSteps(gear, DOWN, reader.number) > 0;
             case '=':
-                return carryOutGoing(gear);
+                if (!canGo(gear, reader.number)) {
+                    return false;
+                }
+                goTo(gear, reader.number);
+                return true;
             case 'g':
-                return carryOutGreasing(gear);
+                if (!canGrease()) {
+                    return false;
+                }
+                makeGreased(gear);
+                return true;
             default:
                 makeHomed(gear);
                 return true;
         }
-    }
-
-    private boolean carryOutSteps(Gear gear, int way) {
-        return makeSteps(gear, way, reader.number) > 0;
-    }
-
-    private boolean carryOutGoing(Gear gear) {
-        if (!canGo(gear, reader.number)) {
-            return false;
-        }
-        goTo(gear, reader.number);
-        return true;
-    }
-
-    private boolean carryOutGreasing(Gear gear) {
-        if (!canGrease()) {
-            return false;
-        }
-        makeGreased(gear);
-        return true;
     }
 
     // ---- numbers of what there is and of what would be
@@ -485,7 +473,8 @@ public final class ArmTolls {
         if (!gear.isTurn(way)) {
             return 0;
         }
-        return gear.isSlip(way, now.rules) ? 2 : 1;
+        int wear = gear.wearOf(Gear.toothBy(gear.place, way));
+        return wear >= now.rules.wearThatSlips ? 2 : 1;
     }
 
     private int homingFact(Gear gear, int what) {
@@ -664,11 +653,18 @@ public final class ArmTolls {
         int homings = 0;
 
         static int nextPlace(int from, int way) {
-            return Math.floorMod(from + way, TEETH);
+            int to = from + way;
+            if (to < 0) {
+                return TEETH - 1;
+            }
+            return to < TEETH ? to : 0;
         }
 
         static int toothBy(int from, int way) {
-            return way == UP ? from : nextPlace(from, DOWN);
+            if (way == UP) {
+                return from;
+            }
+            return from > 0 ? from - 1 : TEETH - 1;
         }
 
         static int distance(int one, int other) {
@@ -702,29 +698,26 @@ public final class ArmTolls {
             return way == -stepWay;
         }
 
-        boolean isSlip(int stepWay, Rules rules) {
-            return isTurn(stepWay) && wearOf(toothBy(place, stepWay)) >= rules.wearThatSlips;
-        }
-
         /** Makes one step if the purse has its toll, and returns the toll; 0, which no toll is, if it has less. */
         int makeStep(int stepWay, int purse, Rules rules) {
-            int toll = tollOfStep(stepWay, rules);
+            int tooth = toothBy(place, stepWay);
+            int wear = wearOf(tooth);
+            int toll = tollWith(wear, greased, rules);
             if (toll > purse) {
                 return 0;
             }
-            int tooth = toothBy(place, stepWay);
-            boolean slipping = isSlip(stepWay, rules);
-            if (isTurn(stepWay)) {
+            boolean turning = isTurn(stepWay);
+            if (turning) {
                 turns++;
                 slack = Math.min(slack + 1, MOST_SLACK);
             }
             believed = nextPlace(believed, stepWay);
-            if (slipping) {
+            if (turning && wear >= rules.wearThatSlips) {
                 slips++;
             } else {
                 place = nextPlace(place, stepWay);
             }
-            setWear(tooth, Math.min(wearOf(tooth) + rules.wearByStep, MOST_WEAR));
+            setWear(tooth, Math.min(wear + rules.wearByStep, MOST_WEAR));
             way = stepWay;
             greased = Math.max(greased - 1, 0);
             steps++;
@@ -804,7 +797,7 @@ public final class ArmTolls {
         }
 
         void copyFrom(Gear other) {
-            System.arraycopy(other.wears, 0, wears, 0, TEETH);
+            System.arraycopy(other.wears, 0, wears, 0, Math.min(other.wears.length, wears.length));
             place = other.place;
             believed = other.believed;
             load = other.load;

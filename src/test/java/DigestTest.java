@@ -22,8 +22,20 @@ public final class DigestTest {
         look(x, "", "after homing");
         x.undo();
         look(x, "", "after undo");
+        wholeMeans();
         meansOfManySizes();
         Check.end("DigestTest");
+    }
+
+    private static void wholeMeans() {
+        for (int load = 0; load <= 5; load++) {
+            ArmTolls x = new ArmTolls();
+            x.load(2, load);
+            x.step(2, 1);
+            look(x, "", "with a mean toll of " + x.meanToll());
+            x.step(2, 3);
+            look(x, "", "with a mean toll of " + x.meanToll());
+        }
     }
 
     /** Mean tolls up to the greatest one, 105, so that each part of the bits is looked at. */

@@ -64,7 +64,10 @@ public final class PurseTest {
             Check.due("setting(" + setting + ") at the end", x.setting(setting), most[setting]);
         }
         Check.undoable(new ArmTolls(), "set(2, 40)", y -> y.set(2, 40));
-        Check.undoable(new ArmTolls(), "set(2, 7)", y -> y.set(2, 7));
+        for (int i = 0; i < 6; i++) {
+            int setting = i;
+            Check.undoable(new ArmTolls(), "set(" + setting + ", 7)", y -> y.set(setting, 7));
+        }
         for (int wrong : new int[] {-1, 6, Integer.MIN_VALUE, Integer.MAX_VALUE}) {
             Check.refuses(x, "set(" + wrong + ", 5)", Check.INDEX, y -> y.set(wrong, 5));
             Check.refuses(x, "set(" + wrong + ", -1)", Check.INDEX, y -> y.set(wrong, -1));

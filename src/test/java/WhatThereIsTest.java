@@ -93,6 +93,18 @@ public final class WhatThereIsTest {
         Check.due("count(6) with 61", x.count(6), 0);
         x.home(1);
         Check.due("count(7) after homing", x.count(7), 4);
+        ArmTolls z = new ArmTolls();
+        z.set(0, 20);
+        z.set(2, 20);
+        for (int axis = 0; axis < 4; axis++) {
+            z.step(axis, -2);
+            z.step(axis, 1);
+            Check.due("count(1)", z.count(1), 3 * (axis + 1));
+            Check.due("count(5)", z.count(5), 60 * (axis + 1));
+            Check.due("count(6)", z.count(6), 2 * (axis + 1));
+            Check.due("count(7)", z.count(7), 3 - axis);
+            Check.due("count(3)", z.count(3), axis + 1);
+        }
         for (int wrong : new int[] {-1, 9, Integer.MIN_VALUE, Integer.MAX_VALUE}) {
             Check.refuses(x, "count(" + wrong + ")", Check.ARGUMENT, y -> y.count(wrong));
         }

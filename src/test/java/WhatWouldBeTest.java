@@ -11,6 +11,7 @@ public final class WhatWouldBeTest {
         promise23Reach();
         promise24CouldBe();
         promise25Worst();
+        promise25LittleWear();
         promise25Grease();
         promise26MeanToll();
         nothingIsChanged();
@@ -166,6 +167,8 @@ public final class WhatWouldBeTest {
         x.step(0, 3);
         x.set(2, 9);
         homing(x, 0, 2 + 1, 2 * 2 + 3, 1);
+        x.home(0);
+        homing(x, 0, 0, 0, 1);
         ArmTolls poor = Check.armWithPurse(9);
         poor.step(1, 5);
         homing(poor, 1, 4, 4, 0);
@@ -274,6 +277,17 @@ public final class WhatWouldBeTest {
         }
     }
 
+    private static void promise25LittleWear() {
+        ArmTolls x = new ArmTolls();
+        x.set(0, 1);
+        x.step(0, 24);
+        x.set(1, 2);
+        Check.due("worst(0, 3), a wear of 1 by 2", x.worst(0, 3), ArmTolls.NONE);
+        x.set(1, 1);
+        Check.due("worst(0, 3), a wear of 1 by 1", x.worst(0, 3), 0);
+        Check.due("worst(0, 22)", x.worst(0, 22), 22);
+    }
+
     private static void promise25Grease() {
         ArmTolls x = new ArmTolls();
         wearTooth(x, 0, 30);
@@ -304,6 +318,10 @@ public final class WhatWouldBeTest {
         x.undo();
         x.undo();
         mean(x, 1.0);
+        ArmTolls y = new ArmTolls();
+        y.load(0, 3);
+        y.step(0, 1);
+        mean(y, 4.0);
     }
 
     private static void nothingIsChanged() {
