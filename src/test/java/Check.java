@@ -5,6 +5,11 @@ final class Check {
         long answer(ArmTolls x);
     }
 
+    /** A call of the face with a number that is tried. */
+    interface OnNumber {
+        long answer(ArmTolls x, int number);
+    }
+
     static final Class<IndexOutOfBoundsException> INDEX = IndexOutOfBoundsException.class;
     static final Class<IllegalArgumentException> ARGUMENT = IllegalArgumentException.class;
     static final Class<IllegalStateException> STATE = IllegalStateException.class;
@@ -66,9 +71,19 @@ final class Check {
         }
     }
 
+    /** Refuses each of these numbers in the same way. */
+    static void refusesEach(ArmTolls x, String call, Class<? extends RuntimeException> want, int[] numbers, OnNumber run) {
+        for (int number : numbers) {
+            refuses(x, call + " with n = " + number, want, y -> run.answer(y, number));
+        }
+    }
+
     /** An arm that has so much in its purse: the rest went into greasing the axis 3. */
     static ArmTolls armWithPurse(int purse) {
-        ArmTolls x = new ArmTolls();
+        return spentTo(purse, new ArmTolls());
+    }
+
+    static ArmTolls spentTo(int purse, ArmTolls x) {
         while (x.count(0) > purse) {
             x.set(5, Math.min(200, x.count(0) - purse));
             x.grease(3);
@@ -84,7 +99,15 @@ final class Check {
         }
     }
 
-    private static void tell(String fault) {
+    static int looked() {
+        return looked;
+    }
+
+    static int wrong() {
+        return wrong;
+    }
+
+    static void tell(String fault) {
         wrong++;
         System.out.println(fault);
     }
