@@ -60,6 +60,14 @@ final class Arms {
         return new int[] {most + 1, most + 1000000, Integer.MAX_VALUE};
     }
 
+    /** A new arm refuses the numbers beside a range. */
+    static void refusesOutside(int least, int most, String call, Class<? extends RuntimeException> want,
+            Check.OnNumber run) {
+        ArmTolls x = new ArmTolls();
+        Check.refusesEach(x, call, want, below(least), run);
+        Check.refusesEach(x, call, want, above(most), run);
+    }
+
     /** An arm with at least 1000 in its purse. */
     static ArmTolls rich(int purse) {
         ArmTolls x = new ArmTolls();

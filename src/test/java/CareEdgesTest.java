@@ -67,9 +67,7 @@ public final class CareEdgesTest {
 
     @Edge("Throws IndexOutOfBoundsException if there is no such axis")
     static void promise8_noSuchAxisIsRefused() {
-        ArmTolls x = new ArmTolls();
-        Check.refusesEach(x, "grease(n)", Check.INDEX, Arms.below(0), (y, n) -> y.grease(n));
-        Check.refusesEach(x, "grease(n)", Check.INDEX, Arms.above(3), (y, n) -> y.grease(n));
+        Arms.refusesOutside(0, 3, "grease(n)", Check.INDEX, (x, n) -> x.grease(n));
     }
 
     @Edge("Throws IllegalStateException if the purse has less than setting 5")
@@ -158,17 +156,13 @@ public final class CareEdgesTest {
 
     @Edge("Throws IndexOutOfBoundsException if there is no such axis or tooth")
     static void promise9_noSuchAxisIsRefused() {
-        ArmTolls x = new ArmTolls();
-        Check.refusesEach(x, "mend(n, 0)", Check.INDEX, Arms.below(0), (y, n) -> y.mend(n, 0));
-        Check.refusesEach(x, "mend(n, 0)", Check.INDEX, Arms.above(3), (y, n) -> y.mend(n, 0));
+        Arms.refusesOutside(0, 3, "mend(n, 0)", Check.INDEX, (x, n) -> x.mend(n, 0));
     }
 
     @Edge("Throws IndexOutOfBoundsException if there is no such axis or tooth")
     static void promise9_noSuchToothIsRefused() {
-        ArmTolls x = new ArmTolls();
-        Check.refusesEach(x, "mend(0, n)", Check.INDEX, Arms.below(0), (y, n) -> y.mend(0, n));
-        Check.refusesEach(x, "mend(0, n)", Check.INDEX, Arms.above(23), (y, n) -> y.mend(0, n));
-        Check.refusesEach(x, "mend(3, n)", Check.INDEX, Arms.above(23), (y, n) -> y.mend(3, n));
+        Arms.refusesOutside(0, 23, "mend(0, n)", Check.INDEX, (x, n) -> x.mend(0, n));
+        Arms.refusesOutside(0, 23, "mend(3, n)", Check.INDEX, (x, n) -> x.mend(3, n));
     }
 
     @Edge("Throws IllegalStateException if the purse has less than that")

@@ -67,44 +67,8 @@ public final class DigestEdgesTest {
 
     // ---- promise 27
 
-    private static long hashOf(ArmTolls x, String buffer) {
-        long hash = 2417;
-        for (int what = 0; what <= 8; what++) {
-            hash = 31 * hash + x.count(what);
-        }
-        for (int setting = 0; setting <= 5; setting++) {
-            hash = 31 * hash + x.setting(setting);
-        }
-        for (int axis = 0; axis <= 3; axis++) {
-            hash = withAxis(hash, x, axis);
-        }
-        hash = 31 * hash + Double.doubleToLongBits(x.meanToll());
-        hash = 31 * hash + buffer.length();
-        for (char code : buffer.toCharArray()) {
-            hash = 31 * hash + code;
-        }
-        return hash;
-    }
-
-    private static long withAxis(long start, ArmTolls x, int axis) {
-        long hash = start;
-        for (int what = 0; what <= 11; what++) {
-            hash = 31 * hash + x.axis(axis, what);
-        }
-        for (int tooth = 0; tooth <= 23; tooth++) {
-            hash = 31 * hash + x.wear(axis, tooth);
-        }
-        int[] values = {x.toll(axis, true), x.toll(axis, false), x.slips(axis, true), x.slips(axis, false),
-            x.cost(axis, 12, true), x.cost(axis, 12, false), x.ifHomed(axis, 0), x.ifHomed(axis, 1), x.ifHomed(axis, 2),
-            x.reach(axis, true), x.reach(axis, false), x.couldBe(axis), x.worst(axis, 12)};
-        for (int value : values) {
-            hash = 31 * hash + value;
-        }
-        return hash;
-    }
-
     private static void digestIsTheHash(ArmTolls x, String buffer) {
-        long due = hashOf(x, buffer);
+        long due = DigestTest.hashOf(x, buffer);
         Check.due("digest()", x.digest(), due);
         Check.due("digest() once more", x.digest(), due);
     }
@@ -170,6 +134,26 @@ public final class DigestEdgesTest {
         for (int load = 0; load <= 5; load++) {
             x.load(load % 4, load);
             x.step(load % 4, 1 + 2 * load);
+            digestIsTheHash(x, "");
+        }
+    }
+
+    @Edge(VALUES)
+    static void promise27_anAxisThatReachesFartherDownThanUp() {
+        ArmTolls x = Check.spentTo(4, Arms.worn(0, 40));
+        Check.due("reach(0, true)", x.reach(0, true), 0);
+        Check.due("reach(0, false)", x.reach(0, false), 4);
+        digestIsTheHash(x, "");
+    }
+
+    @Edge("the bits of meanToll (as Double.doubleToLongBits);")
+    static void promise27_theBitsOfMeanTollsOf1And2And4() {
+        int[] loads = {0, 1, 3};
+        for (int load : loads) {
+            ArmTolls x = new ArmTolls();
+            x.load(0, load);
+            x.step(0, 1);
+            Check.due("whole of meanToll()", (long) x.meanToll(), 1 + load);
             digestIsTheHash(x, "");
         }
     }

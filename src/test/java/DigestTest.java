@@ -59,6 +59,13 @@ public final class DigestTest {
     }
 
     private static void look(ArmTolls x, String buffer, String when) {
+        long hash = hashOf(x, buffer);
+        Check.due("digest() " + when, x.digest(), hash);
+        Check.due("digest() once more, " + when, x.digest(), hash);
+    }
+
+    /** What digest is to answer, from the answers of the other calls. */
+    static long hashOf(ArmTolls x, String buffer) {
         long hash = 2417;
         for (int what = 0; what <= 8; what++) {
             hash = 31 * hash + x.count(what);
@@ -74,8 +81,7 @@ public final class DigestTest {
         for (int i = 0; i < buffer.length(); i++) {
             hash = 31 * hash + buffer.charAt(i);
         }
-        Check.due("digest() " + when, x.digest(), hash);
-        Check.due("digest() once more, " + when, x.digest(), hash);
+        return hash;
     }
 
     private static long withAxis(ArmTolls x, long start, int axis) {

@@ -306,9 +306,7 @@ public final class GoingEdgesTest {
 
     @Edge("Throws IndexOutOfBoundsException if there is no such axis")
     static void promise6_noSuchAxisIsRefused() {
-        ArmTolls x = new ArmTolls();
-        Check.refusesEach(x, "go(n, 1)", Check.INDEX, Arms.below(0), (y, n) -> y.go(n, 1));
-        Check.refusesEach(x, "go(n, 1)", Check.INDEX, Arms.above(3), (y, n) -> y.go(n, 1));
+        Arms.refusesOutside(0, 3, "go(n, 1)", Check.INDEX, (x, n) -> x.go(n, 1));
     }
 
     @Edge("Throws IllegalArgumentException if place is out of range")
@@ -408,8 +406,6 @@ public final class GoingEdgesTest {
 
     @Edge("Throws IndexOutOfBoundsException if there is no such axis")
     static void promise7_noSuchAxisIsRefused() {
-        ArmTolls x = new ArmTolls();
-        Check.refusesEach(x, "home(n)", Check.INDEX, Arms.below(0), (y, n) -> y.home(n));
-        Check.refusesEach(x, "home(n)", Check.INDEX, Arms.above(3), (y, n) -> y.home(n));
+        Arms.refusesOutside(0, 3, "home(n)", Check.INDEX, (x, n) -> x.home(n));
     }
 }

@@ -3,7 +3,6 @@ public final class NewObjectTest {
     public static void main(String[] args) {
         Check.due("NONE", ArmTolls.NONE, -1);
         allIsAtFirst();
-        objectsAreApart();
         Check.end("NewObjectTest");
     }
 
@@ -26,15 +25,5 @@ public final class NewObjectTest {
         Check.due("firstError()", x.firstError(), 0);
         Check.due("clearBuffer()", x.clearBuffer(), 0);
         Check.refuses(x, "undo()", Check.STATE, y -> y.undo());
-    }
-
-    private static void objectsAreApart() {
-        ArmTolls one = new ArmTolls();
-        ArmTolls other = new ArmTolls();
-        long before = other.digest();
-        one.step(0, 5);
-        one.set(0, 20);
-        one.append('a');
-        Check.due("digest() of the other object", other.digest(), before);
     }
 }

@@ -142,9 +142,7 @@ public final class PurseEdgesTest {
 
     @Edge("Throws IndexOutOfBoundsException if there is no such axis")
     static void promise3_noSuchAxisIsRefused() {
-        ArmTolls x = new ArmTolls();
-        Check.refusesEach(x, "load(n, 1)", Check.INDEX, Arms.below(0), (y, n) -> y.load(n, 1));
-        Check.refusesEach(x, "load(n, 1)", Check.INDEX, Arms.above(3), (y, n) -> y.load(n, 1));
+        Arms.refusesOutside(0, 3, "load(n, 1)", Check.INDEX, (x, n) -> x.load(n, 1));
     }
 
     @Edge("Throws IllegalArgumentException if load is out of range")
@@ -212,9 +210,7 @@ public final class PurseEdgesTest {
 
     @Edge("Throws IndexOutOfBoundsException if there is no such setting")
     static void promise4_noSuchSettingIsRefused() {
-        ArmTolls x = new ArmTolls();
-        Check.refusesEach(x, "set(n, 5)", Check.INDEX, Arms.below(0), (y, n) -> y.set(n, 5));
-        Check.refusesEach(x, "set(n, 5)", Check.INDEX, Arms.above(5), (y, n) -> y.set(n, 5));
+        Arms.refusesOutside(0, 5, "set(n, 5)", Check.INDEX, (x, n) -> x.set(n, 5));
     }
 
     @Edge("Throws IllegalArgumentException if value is out of range")

@@ -277,35 +277,28 @@ public final class StepsEdgesTest {
         return x;
     }
 
+    private static void turnSlips(int wear, int wearThatSlips, boolean isDue) {
+        ArmTolls x = aheadOfATurn(wear);
+        x.set(2, wearThatSlips);
+        x.step(0, -1);
+        String turn = " after a turn by a wear of " + wear + " of " + wearThatSlips;
+        Check.due("axis(0, 7)" + turn, x.axis(0, 7), isDue ? 1 : 0);
+        Check.due("axis(0, 0)" + turn, x.axis(0, 0), isDue ? 1 : 0);
+        Check.due("axis(0, 4)" + turn, x.axis(0, 4), 1);
+    }
+
     @Edge(SLIP)
     static void steps_aTurnByAWearOfSetting2Slips() {
-        ArmTolls x = aheadOfATurn(40);
-        x.step(0, -1);
-        Check.due("axis(0, 7)", x.axis(0, 7), 1);
-        ArmTolls y = aheadOfATurn(98);
-        y.set(2, 98);
-        y.step(0, -1);
-        Check.due("axis(0, 7) with 98", y.axis(0, 7), 1);
-        ArmTolls z = aheadOfATurn(1);
-        z.set(2, 1);
-        z.step(0, -1);
-        Check.due("axis(0, 7) with 1", z.axis(0, 7), 1);
+        turnSlips(40, 40, true);
+        turnSlips(98, 98, true);
+        turnSlips(1, 1, true);
     }
 
     @Edge(SLIP)
     static void steps_aTurnByAWearOf1LessDoesNotSlip() {
-        ArmTolls x = aheadOfATurn(39);
-        x.step(0, -1);
-        Check.due("axis(0, 7)", x.axis(0, 7), 0);
-        Check.due("axis(0, 4), it is a turn", x.axis(0, 4), 1);
-        ArmTolls y = aheadOfATurn(98);
-        y.set(2, 99);
-        y.step(0, -1);
-        Check.due("axis(0, 7) with 98 of 99", y.axis(0, 7), 0);
-        ArmTolls z = aheadOfATurn(0);
-        z.set(2, 1);
-        z.step(0, -1);
-        Check.due("axis(0, 7) with 0 of 1", z.axis(0, 7), 0);
+        turnSlips(39, 40, false);
+        turnSlips(98, 99, false);
+        turnSlips(0, 1, false);
     }
 
     @Edge(SLIP)
@@ -486,9 +479,7 @@ public final class StepsEdgesTest {
 
     @Edge("Throws IndexOutOfBoundsException if there is no such axis")
     static void promise5_noSuchAxisIsRefused() {
-        ArmTolls x = new ArmTolls();
-        Check.refusesEach(x, "step(n, 1)", Check.INDEX, Arms.below(0), (y, n) -> y.step(n, 1));
-        Check.refusesEach(x, "step(n, 1)", Check.INDEX, Arms.above(3), (y, n) -> y.step(n, 1));
+        Arms.refusesOutside(0, 3, "step(n, 1)", Check.INDEX, (x, n) -> x.step(n, 1));
     }
 
     @Edge("Throws IllegalArgumentException if steps is out of range or 0")

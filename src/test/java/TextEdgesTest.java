@@ -401,6 +401,13 @@ public final class TextEdgesTest {
         Check.due("clearBuffer()", x.clearBuffer(), 0);
     }
 
+    @Edge("and clears the buffer.")
+    static void promise13_theBufferIsClearedAlsoIfNoCommandIsCarriedOut() {
+        ArmTolls x = Check.armWithPurse(0);
+        Check.due("run()", Arms.typedAndRun(x, "a+1"), 0);
+        Check.due("clearBuffer()", x.clearBuffer(), 0);
+    }
+
     @Edge("Undoable, as one call, also if no command is carried out.")
     static void promise13_20CommandsAreUndoneAsOneCall() {
         Arms.undoBringsBack(new ArmTolls(), "run()", x -> Arms.typedAndRun(x, "a+1;".repeat(14) + "b+1"));

@@ -74,16 +74,19 @@ public final class UndoEdgesTest {
     static void undo_whatIsCountedComesBack() {
         ArmTolls x = Arms.slipped();
         int[] before = counts(x);
+        x.set(2, 1);
         x.set(0, 20);
         x.step(0, 5);
         x.grease(0);
         x.step(0, -2);
         x.home(0);
-        for (int i = 0; i < 5; i++) {
+        int[] between = counts(x);
+        for (int i = 0; i < 6; i++) {
             x.undo();
         }
         int[] after = counts(x);
         for (int i = 0; i < before.length; i++) {
+            Check.due("whether it is more, the number " + i, between[i] > before[i] ? 1 : 0, 1);
             Check.due("what is counted, the number " + i, after[i], before[i]);
         }
     }

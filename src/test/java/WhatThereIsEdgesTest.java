@@ -92,6 +92,16 @@ public final class WhatThereIsEdgesTest {
         Check.due("axis(2, 6)", x.axis(2, 6), 0);
     }
 
+    @Edge("6: steps so far;")
+    static void promise15_6CountsStepsThatSlipToo() {
+        ArmTolls x = Arms.worn(0, 40);
+        x.step(0, 1);
+        int before = x.axis(0, 6);
+        x.step(0, -1);
+        Check.due("axis(0, 0)", x.axis(0, 0), 1);
+        Check.due("axis(0, 6) more", x.axis(0, 6) - before, 1);
+    }
+
     @Edge("7: of these, slips;")
     static void promise15_7CountsSlipsAlsoByHoming() {
         ArmTolls x = Arms.worn(0, 40);
@@ -171,9 +181,8 @@ public final class WhatThereIsEdgesTest {
 
     @Edge("Throws IndexOutOfBoundsException if there is no such axis")
     static void promise15_noSuchAxisIsRefused() {
-        ArmTolls x = new ArmTolls();
-        Check.refusesEach(x, "axis(n, 0)", Check.INDEX, Arms.below(0), (y, n) -> y.axis(n, 0));
-        Check.refusesEach(x, "axis(n, 11)", Check.INDEX, Arms.above(3), (y, n) -> y.axis(n, 11));
+        Arms.refusesOutside(0, 3, "axis(n, 0)", Check.INDEX, (x, n) -> x.axis(n, 0));
+        Arms.refusesOutside(0, 3, "axis(n, 11)", Check.INDEX, (x, n) -> x.axis(n, 11));
     }
 
     @Edge("Throws IllegalArgumentException if what is not 0 to 11")
@@ -233,18 +242,14 @@ public final class WhatThereIsEdgesTest {
 
     @Edge("Throws IndexOutOfBoundsException if there is no such axis or tooth")
     static void promise16_noSuchAxisIsRefused() {
-        ArmTolls x = new ArmTolls();
-        Check.refusesEach(x, "wear(n, 0)", Check.INDEX, Arms.below(0), (y, n) -> y.wear(n, 0));
-        Check.refusesEach(x, "wear(n, 23)", Check.INDEX, Arms.above(3), (y, n) -> y.wear(n, 23));
+        Arms.refusesOutside(0, 3, "wear(n, 0)", Check.INDEX, (x, n) -> x.wear(n, 0));
+        Arms.refusesOutside(0, 3, "wear(n, 23)", Check.INDEX, (x, n) -> x.wear(n, 23));
     }
 
     @Edge("Throws IndexOutOfBoundsException if there is no such axis or tooth")
     static void promise16_noSuchToothIsRefused() {
-        ArmTolls x = new ArmTolls();
-        Check.refusesEach(x, "wear(0, n)", Check.INDEX, Arms.below(0), (y, n) -> y.wear(0, n));
-        Check.refusesEach(x, "wear(1, n)", Check.INDEX, Arms.below(0), (y, n) -> y.wear(1, n));
-        Check.refusesEach(x, "wear(0, n)", Check.INDEX, Arms.above(23), (y, n) -> y.wear(0, n));
-        Check.refusesEach(x, "wear(3, n)", Check.INDEX, Arms.above(23), (y, n) -> y.wear(3, n));
+        Arms.refusesOutside(0, 23, "wear(0, n)", Check.INDEX, (x, n) -> x.wear(0, n));
+        Arms.refusesOutside(0, 23, "wear(3, n)", Check.INDEX, (x, n) -> x.wear(3, n));
     }
 
     // ---- promise 17
@@ -297,6 +302,15 @@ public final class WhatThereIsEdgesTest {
             x.step(axis, -1);
             Check.due("count(3)", x.count(3), axis + 1);
         }
+    }
+
+    @Edge("3: slips so far;")
+    static void promise17_3DoesNotCountTurnsThatDoNotSlip() {
+        ArmTolls x = new ArmTolls();
+        x.step(0, 1);
+        x.step(0, -1);
+        Check.due("axis(0, 10)", x.axis(0, 10), 1);
+        Check.due("count(3)", x.count(3), 0);
     }
 
     @Edge("4: what greasing and mending cost so far;")
@@ -422,7 +436,6 @@ public final class WhatThereIsEdgesTest {
 
     @Edge("Throws IndexOutOfBoundsException if there is no such setting")
     static void promise18_noSuchSettingIsRefused() {
-        Check.refusesEach(new ArmTolls(), "setting(n)", Check.INDEX, Arms.below(0), (x, n) -> x.setting(n));
-        Check.refusesEach(new ArmTolls(), "setting(n)", Check.INDEX, Arms.above(5), (x, n) -> x.setting(n));
+        Arms.refusesOutside(0, 5, "setting(n)", Check.INDEX, (x, n) -> x.setting(n));
     }
 }

@@ -84,9 +84,8 @@ public final class WhatWouldBeEdgesTest {
 
     @Edge("Throws IndexOutOfBoundsException if there is no such axis")
     static void promise19_noSuchAxisIsRefused() {
-        ArmTolls x = new ArmTolls();
-        Check.refusesEach(x, "toll(n, true)", Check.INDEX, Arms.below(0), (y, n) -> y.toll(n, true));
-        Check.refusesEach(x, "toll(n, false)", Check.INDEX, Arms.above(3), (y, n) -> y.toll(n, false));
+        Arms.refusesOutside(0, 3, "toll(n, true)", Check.INDEX, (x, n) -> x.toll(n, true));
+        Arms.refusesOutside(0, 3, "toll(n, false)", Check.INDEX, (x, n) -> x.toll(n, false));
     }
 
     // ---- promise 20
@@ -160,9 +159,8 @@ public final class WhatWouldBeEdgesTest {
 
     @Edge("Throws IndexOutOfBoundsException if there is no such axis")
     static void promise20_noSuchAxisIsRefused() {
-        ArmTolls x = new ArmTolls();
-        Check.refusesEach(x, "slips(n, true)", Check.INDEX, Arms.below(0), (y, n) -> y.slips(n, true));
-        Check.refusesEach(x, "slips(n, false)", Check.INDEX, Arms.above(3), (y, n) -> y.slips(n, false));
+        Arms.refusesOutside(0, 3, "slips(n, true)", Check.INDEX, (x, n) -> x.slips(n, true));
+        Arms.refusesOutside(0, 3, "slips(n, false)", Check.INDEX, (x, n) -> x.slips(n, false));
     }
 
     // ---- promise 21
@@ -227,9 +225,8 @@ public final class WhatWouldBeEdgesTest {
 
     @Edge("Throws IndexOutOfBoundsException if there is no such axis")
     static void promise21_noSuchAxisIsRefused() {
-        ArmTolls x = new ArmTolls();
-        Check.refusesEach(x, "cost(n, 0, true)", Check.INDEX, Arms.below(0), (y, n) -> y.cost(n, 0, true));
-        Check.refusesEach(x, "cost(n, 0, false)", Check.INDEX, Arms.above(3), (y, n) -> y.cost(n, 0, false));
+        Arms.refusesOutside(0, 3, "cost(n, 0, true)", Check.INDEX, (x, n) -> x.cost(n, 0, true));
+        Arms.refusesOutside(0, 3, "cost(n, 0, false)", Check.INDEX, (x, n) -> x.cost(n, 0, false));
     }
 
     @Edge("Throws IllegalArgumentException if place is out of range")
@@ -322,9 +319,8 @@ public final class WhatWouldBeEdgesTest {
 
     @Edge("Throws IndexOutOfBoundsException if there is no such axis")
     static void promise22_noSuchAxisIsRefused() {
-        ArmTolls x = new ArmTolls();
-        Check.refusesEach(x, "ifHomed(n, 0)", Check.INDEX, Arms.below(0), (y, n) -> y.ifHomed(n, 0));
-        Check.refusesEach(x, "ifHomed(n, 2)", Check.INDEX, Arms.above(3), (y, n) -> y.ifHomed(n, 2));
+        Arms.refusesOutside(0, 3, "ifHomed(n, 0)", Check.INDEX, (x, n) -> x.ifHomed(n, 0));
+        Arms.refusesOutside(0, 3, "ifHomed(n, 2)", Check.INDEX, (x, n) -> x.ifHomed(n, 2));
     }
 
     @Edge("Throws IllegalArgumentException if what is not 0 to 2")
@@ -442,9 +438,8 @@ public final class WhatWouldBeEdgesTest {
 
     @Edge("Throws IndexOutOfBoundsException if there is no such axis")
     static void promise23_noSuchAxisIsRefused() {
-        ArmTolls x = new ArmTolls();
-        Check.refusesEach(x, "reach(n, true)", Check.INDEX, Arms.below(0), (y, n) -> y.reach(n, true));
-        Check.refusesEach(x, "reach(n, false)", Check.INDEX, Arms.above(3), (y, n) -> y.reach(n, false));
+        Arms.refusesOutside(0, 3, "reach(n, true)", Check.INDEX, (x, n) -> x.reach(n, true));
+        Arms.refusesOutside(0, 3, "reach(n, false)", Check.INDEX, (x, n) -> x.reach(n, false));
     }
 
     // ---- promise 24
@@ -516,9 +511,7 @@ public final class WhatWouldBeEdgesTest {
 
     @Edge("Throws IndexOutOfBoundsException if there is no such axis")
     static void promise24_noSuchAxisIsRefused() {
-        ArmTolls x = new ArmTolls();
-        Check.refusesEach(x, "couldBe(n)", Check.INDEX, Arms.below(0), (y, n) -> y.couldBe(n));
-        Check.refusesEach(x, "couldBe(n)", Check.INDEX, Arms.above(3), (y, n) -> y.couldBe(n));
+        Arms.refusesOutside(0, 3, "couldBe(n)", Check.INDEX, (x, n) -> x.couldBe(n));
     }
 
     // ---- promise 25
@@ -559,6 +552,14 @@ public final class WhatWouldBeEdgesTest {
     static void promise25_theTeeth0And23MayBeIt() {
         Check.due("worst(0, 1)", Arms.worn(0, 10).worst(0, 1), 0);
         Check.due("worst(0, 23)", Arms.worn(23, 10).worst(0, 23), 23);
+    }
+
+    @Edge(WORST)
+    static void promise25_aWearOf1MayBeIt() {
+        ArmTolls x = Arms.worn(5, 1);
+        x.set(1, 1);
+        Check.due("worst(0, 7)", x.worst(0, 7), 5);
+        Check.due("worst(0, 5), ahead of the tooth 5", x.worst(0, 5), ArmTolls.NONE);
     }
 
     @Edge("of several the lowest number;")
@@ -631,9 +632,8 @@ public final class WhatWouldBeEdgesTest {
 
     @Edge("Throws IndexOutOfBoundsException if there is no such axis")
     static void promise25_noSuchAxisIsRefused() {
-        ArmTolls x = new ArmTolls();
-        Check.refusesEach(x, "worst(n, 0)", Check.INDEX, Arms.below(0), (y, n) -> y.worst(n, 0));
-        Check.refusesEach(x, "worst(n, 23)", Check.INDEX, Arms.above(3), (y, n) -> y.worst(n, 23));
+        Arms.refusesOutside(0, 3, "worst(n, 0)", Check.INDEX, (x, n) -> x.worst(n, 0));
+        Arms.refusesOutside(0, 3, "worst(n, 23)", Check.INDEX, (x, n) -> x.worst(n, 23));
     }
 
     @Edge("Throws IllegalArgumentException if place is out of range")
